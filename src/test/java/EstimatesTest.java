@@ -13,8 +13,12 @@ public final class EstimatesTest {
         registersOfAll();
         distincts();
         aboutByZeros();
+        aboutIsRoundedDown();
         estimates();
+        estimatesOfSingles();
+        sampledChains();
         ranges();
+        rangesOfManyTriples();
         samples();
         due.end();
     }
@@ -103,6 +107,16 @@ public final class EstimatesTest {
         }
     }
 
+    /** ABOUT of these comes to 74.003 before it is rounded, so that a slight change of the formula shows. */
+    private static void aboutIsRoundedDown() {
+        StatRows x = new StatRows();
+        for (int s = 29; s < 29 + 67; s++) {
+            x.triple(s, 5, 0);
+        }
+        due.is("distinct, just above a whole number", x.distinct(32, 66), 74);
+        due.is("distinct, known", x.distinct(32, 67), 67);
+    }
+
     private static void estimates() {
         StatRows x = new StatRows();
         for (int i = 0; i < 10; i++) {
@@ -136,7 +150,18 @@ public final class EstimatesTest {
         due.is("estimate, op -1", x.estimate(-1, 0, 0), StatRows.BAD);
         due.is("estimate, op 5", x.estimate(5, 0, 0), StatRows.BAD);
         due.is("estimate, op 5, any q", x.estimate(5, 0, 9), StatRows.BAD);
-        sampledChains();
+    }
+
+    private static void estimatesOfSingles() {
+        StatRows x = new StatRows();
+        x.triple(1, 0, 2);
+        x.triple(2, 7, 3);
+        due.is("CHAIN of one and one", x.estimate(0, 0, 7), 1);
+        due.is("STAR of one and one", x.estimate(1, 7, 0), 1);
+        due.is("a filter on one", x.estimate(3, 7, 7), 0);
+        x.drop(2, 7, 3);
+        due.is("CHAIN of one and none", x.estimate(0, 0, 7), 0);
+        due.is("both of one and none", x.estimate(2, 0, 7), 1);
     }
 
     /** The samples have, of these, the pairs (0, 3), (0, 1), (3, 2), (3, 12) and (2, 0), but not (0, 2) and (3, 3). */
@@ -186,6 +211,26 @@ public final class EstimatesTest {
         for (int p : WRONG) {
             due.is("range of " + p, x.range(p, 0, 255), StatRows.BAD);
         }
+    }
+
+    private static void rangesOfManyTriples() {
+        StatRows x = new StatRows();
+        for (int s = 0; s < 40; s++) {
+            x.triple(s, 7, 70);
+        }
+        for (int s = 0; s < 33; s++) {
+            x.triple(s, 7, 100);
+        }
+        due.is("range of one number of forty", x.range(7, 64, 64), 1);
+        due.is("range of one number, the last", x.range(7, 95, 95), 1);
+        due.is("range, one of each of two", x.range(7, 95, 96), 2);
+        due.is("range, one short of the first", x.range(7, 65, 95), 38);
+        due.is("range, one short of the last", x.range(7, 64, 94), 38);
+        due.is("range of both", x.range(7, 64, 127), 73);
+        due.is("range before both", x.range(7, 0, 63), 0);
+        due.is("range after both", x.range(7, 128, 255), 0);
+        due.is("range of many, turned round", x.range(7, Integer.MAX_VALUE, Integer.MIN_VALUE), 0);
+        due.is("range of many, from is one greater", x.range(7, 80, 79), 0);
     }
 
     private static void samples() {

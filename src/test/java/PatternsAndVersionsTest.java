@@ -80,6 +80,9 @@ public final class PatternsAndVersionsTest {
         due.is("matches(7) after a drop", x.matches(7), 0);
         x.triple(9, 5, 3);
         due.is("matches(8) after one came", x.matches(8), 1);
+        x.triple(0, 0, 0);
+        x.triple(255, 7, 255);
+        due.is("matches(0), of the least and greatest too", x.matches(0), 6);
     }
 
     private static void versions() {
