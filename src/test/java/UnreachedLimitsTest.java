@@ -3,19 +3,30 @@ import java.lang.reflect.Field;
 import java.lang.reflect.Method;
 
 /**
- * Two boundary cases that the document names and no run of calls comes to: rank 29, since HASH(s) of no s has only 0
- * above its four lowest bits, and ABOUT when all 16 registers are 0, since no s at all is never more than a bound.
- * That they can't be come to is tested here, and the code that stands for them is called past the public face.
+ * Boundary cases that the document names and no run of calls comes to: the highest bits of HASH, since no s has a rank
+ * that looks at them; rank 29, since HASH(s) of no s has only 0 above its four lowest bits; and ABOUT when all 16
+ * registers are 0, since no s at all is never more than a bound. That they can't be come to is tested here, and the
+ * code that stands for them is called past the public face.
  */
 public final class UnreachedLimitsTest {
     private static final Due due = new Due();
 
     public static void main(String[] args) throws ReflectiveOperationException {
+        hashHasThirtyTwoBits();
         noNumberHasRankTwentyNine();
         ranksOfBits();
         aboutNeedsOne();
         aboutOfRegisters();
         due.end();
+    }
+
+    private static void hashHasThirtyTwoBits() throws ReflectiveOperationException {
+        Method hash = StatRows.class.getDeclaredMethod("hash", int.class);
+        hash.setAccessible(true);
+        for (int n = -1; n <= 65536; n++) {
+            due.is("HASH(" + n + ")", (int) hash.invoke(null, n), (int) Model.hash(n));
+        }
+        due.is("HASH of the greatest int", (int) hash.invoke(null, Integer.MAX_VALUE), (int) Model.hash(Integer.MAX_VALUE));
     }
 
     private static void noNumberHasRankTwentyNine() {
