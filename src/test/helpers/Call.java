@@ -1,13 +1,38 @@
+import java.util.Arrays;
+import java.util.List;
+import java.util.regex.Matcher;
+import java.util.regex.Pattern;
+
 /** One call with its arguments, so that a run of calls can be put to StatRows and to the Model alike. */
 record Call(String name, int a, int b, int c) {
     static final String[] NAMES = {
         "triple", "drop", "count", "chain", "star", "bucket", "quantile", "register", "distinct", "estimate",
         "range", "sample", "pattern", "matches", "version", "countAt", "forget", "told"
     };
+    /** The calls that may change what others answer; all others only tell. */
+    static final List<String> CHANGES = List.of("triple", "drop", "pattern", "version", "forget");
+
+    private static final Pattern WRITTEN = Pattern.compile("(\\w+)\\(([-\\d, ]*)\\)");
 
     static Call of(String name, int... arguments) {
-        int[] three = java.util.Arrays.copyOf(arguments, 3);
+        int[] three = Arrays.copyOf(arguments, 3);
         return new Call(name, three[0], three[1], three[2]);
+    }
+
+    /** A call as it is written in Java, with numbers alone. */
+    static Call read(String written) {
+        Matcher parts = WRITTEN.matcher(written);
+        if (!parts.matches()) {
+            throw new IllegalArgumentException(written);
+        }
+        String arguments = parts.group(2);
+        int[] numbers = arguments.isEmpty()
+            ? new int[0] : Arrays.stream(arguments.split(", ")).mapToInt(Integer::parseInt).toArray();
+        return of(parts.group(1), numbers);
+    }
+
+    boolean onlyTells() {
+        return !CHANGES.contains(name);
     }
 
     long on(StatRows x) {

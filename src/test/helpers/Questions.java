@@ -8,20 +8,26 @@ final class Questions {
     private Questions() { }
 
     static List<Call> all() {
-        List<Call> calls = new ArrayList<>();
-        told(calls);
-        ofOnePredicate(calls);
-        ofTwoPredicates(calls);
-        ofSets(calls);
-        patternsAndVersions(calls);
+        List<Call> calls = telling();
         changes(calls);
         return calls;
     }
 
-    private static void told(List<Call> calls) {
-        for (int what = 0; what <= 3; what++) {
-            calls.add(Call.of("told", what));
-        }
+    /** Those that only tell. */
+    static List<Call> telling() {
+        List<Call> calls = ofTriples();
+        patternsAndVersions(calls);
+        return calls;
+    }
+
+    /** Those that have nothing to do with patterns and versions. */
+    static List<Call> ofTriples() {
+        List<Call> calls = new ArrayList<>();
+        calls.add(Call.of("told", 0));
+        ofOnePredicate(calls);
+        ofTwoPredicates(calls);
+        ofSets(calls);
+        return calls;
     }
 
     private static void ofOnePredicate(List<Call> calls) {
@@ -66,6 +72,9 @@ final class Questions {
     }
 
     private static void patternsAndVersions(List<Call> calls) {
+        for (int what = 1; what <= 3; what++) {
+            calls.add(Call.of("told", what));
+        }
         for (int row = 0; row <= 30; row++) {
             calls.add(Call.of("matches", row));
         }

@@ -35,6 +35,22 @@ final class States {
         return m;
     }
 
+    /** Few enough that what each call answers can be counted by hand; versions 0 and 1 are kept. */
+    static List<Call> few() {
+        return calls(
+            "triple(4, 0, 2)", "triple(4, 0, 5)", "triple(3, 0, 2)", "version()",
+            "triple(2, 1, 6)", "triple(5, 1, 3)", "triple(2, 7, 200)", "version()",
+            "pattern(-1, -1, -1)", "pattern(-1, 0, -1)", "pattern(2, -1, -1)", "pattern(-1, -1, 6)");
+    }
+
+    static List<Call> calls(String... written) {
+        List<Call> calls = new ArrayList<>();
+        for (String call : written) {
+            calls.add(Call.read(call));
+        }
+        return calls;
+    }
+
     /** Triples at both ends of s, p and o, with none of predicate 3; 2 of 5 versions are kept. */
     static List<Call> some() {
         List<Call> calls = new ArrayList<>();

@@ -1,77 +1,18 @@
-import java.util.ArrayList;
 import java.util.List;
 import java.util.Map;
 
 /** Each call with every mix of arguments at their limits and at the ends of int, in each state, as the Model has it. */
 public final class EdgeGridTest {
-    private static final int CALLS_AT_ONCE = 30;
-    private static final int[] NUMBERS = Limits.around(0, 255);
-    private static final int[] PREDICATES = Limits.around(0, 7);
-    private static final int[] SETS = Limits.around(0, 255);
-    private static final int[] NONE = {0};
-
     private static final Due due = new Due();
 
     public static void main(String[] args) {
         for (Map.Entry<String, List<Call>> state : States.all().entrySet()) {
             for (String name : Call.NAMES) {
-                compare(state, grid(name));
+                List<Call> calls = Grid.of(name);
+                long[] got = Answers.after(state.getValue(), calls);
+                Answers.compare(due, state.getKey(), calls, got, Answers.dueAfter(state.getValue(), calls));
             }
         }
         due.end();
-    }
-
-    private static void compare(Map.Entry<String, List<Call>> state, List<Call> calls) {
-        for (int from = 0; from < calls.size(); from += CALLS_AT_ONCE) {
-            StatRows x = States.rowsAfter(state.getValue());
-            Model m = States.modelAfter(state.getValue());
-            int end = Math.min(calls.size(), from + CALLS_AT_ONCE);
-            for (Call call : calls.subList(from, end)) {
-                due.is(state.getKey() + ": " + call, call.on(x), call.on(m));
-            }
-        }
-    }
-
-    private static List<Call> grid(String name) {
-        return switch (name) {
-            case "triple", "drop" -> grid(name, NUMBERS, PREDICATES, NUMBERS);
-            case "count" -> grid(name, PREDICATES, Limits.around(0, 2), NONE);
-            case "chain", "star" -> grid(name, PREDICATES, PREDICATES, NONE);
-            case "bucket", "range" -> grid(name, PREDICATES, spans(), spans());
-            case "quantile" -> grid(name, PREDICATES, Limits.around(1, 8), NONE);
-            case "register" -> grid(name, SETS, Limits.around(0, 15), NONE);
-            case "distinct" -> grid(name, SETS, new int[] {
-                Integer.MIN_VALUE, -1, 0, 1, 39, 40, 255, 256, Integer.MAX_VALUE}, NONE);
-            case "estimate" -> grid(name, new int[] {
-                Integer.MIN_VALUE, -1, 0, 1, 2, 3, 4, 5, Integer.MAX_VALUE}, PREDICATES, PREDICATES);
-            case "sample" -> grid(name, PREDICATES, Limits.around(0, 400), NONE);
-            case "pattern" -> grid(name, Limits.around(-1, 255), Limits.around(-1, 7), Limits.around(-1, 255));
-            case "matches" -> grid(name, new int[] {
-                Integer.MIN_VALUE, -1, 0, 1, 2, 3, 29, 30, Integer.MAX_VALUE}, NONE, NONE);
-            case "countAt" -> grid(name, PREDICATES, versions(), NONE);
-            case "forget" -> grid(name, versions(), NONE, NONE);
-            case "told" -> grid(name, Limits.around(0, 3), NONE, NONE);
-            default -> grid(name, NONE, NONE, NONE);
-        };
-    }
-
-    private static int[] spans() {
-        return new int[] {Integer.MIN_VALUE, -1, 0, 31, 32, 223, 224, 255, 256, Integer.MAX_VALUE};
-    }
-
-    private static int[] versions() {
-        return new int[] {Integer.MIN_VALUE, -1, 0, 1, 2, 3, 4, 5, 42, 43, Integer.MAX_VALUE};
-    }
-
-    private static List<Call> grid(String name, int[] as, int[] bs, int[] cs) {
-        List<Call> calls = new ArrayList<>();
-        for (int a : as) {
-            for (int b : bs) {
-                for (int c : cs) {
-                    calls.add(Call.of(name, a, b, c));
-                }
-            }
-        }
-        return calls;
     }
 }

@@ -9,9 +9,6 @@ import java.util.Set;
  * answer is as it was before: it is that of an object that never had the call.
  */
 public final class RefusedCallsTest {
-    /** Room for the call itself and for the questions after it, within what an object is used for. */
-    private static final int QUESTIONS_AT_ONCE = 30;
-
     private static final Set<String> REFUSALS = Set.of(
         "triple -1", "triple -3", "drop -1", "count -1", "chain -1", "star -1", "bucket -1", "quantile -1", "quantile -2",
         "register -1", "distinct -1", "estimate -1", "range -1", "sample -1", "sample -2", "pattern -1", "pattern -3",
@@ -24,9 +21,9 @@ public final class RefusedCallsTest {
         List<Call> questions = Questions.all();
         for (Map.Entry<String, List<Call>> state : States.all().entrySet()) {
             due.isTrue(state.getKey() + ": the run is short enough",
-                state.getValue().size() + 1 + QUESTIONS_AT_ONCE <= States.CALLS);
-            long[] before = answersAfter(state.getValue(), questions);
-            isAsTheDocumentSays(state, questions, before);
+                state.getValue().size() + 1 + Answers.AT_ONCE <= States.CALLS);
+            long[] before = Answers.after(state.getValue(), questions);
+            Answers.compare(due, state.getKey(), questions, before, Answers.dueAfter(state.getValue(), questions));
             for (Call call : quietCalls()) {
                 leavesAllAsItWas(state, call, questions, before);
             }
@@ -34,16 +31,6 @@ public final class RefusedCallsTest {
         due.isTrue("all refusals of the document came, and no others: " + seen, seen.equals(REFUSALS));
         refusedInARow();
         due.end();
-    }
-
-    private static void isAsTheDocumentSays(Map.Entry<String, List<Call>> state, List<Call> questions, long[] got) {
-        for (int from = 0; from < questions.size(); from += QUESTIONS_AT_ONCE) {
-            Model m = States.modelAfter(state.getValue());
-            int end = Math.min(questions.size(), from + QUESTIONS_AT_ONCE);
-            for (int i = from; i < end; i++) {
-                due.is(state.getKey() + ": " + questions.get(i), got[i], questions.get(i).on(m));
-            }
-        }
     }
 
     private static void leavesAllAsItWas(
@@ -58,27 +45,11 @@ public final class RefusedCallsTest {
         }
         List<Call> run = new ArrayList<>(state.getValue());
         run.add(call);
-        long[] after = answersAfter(run, questions);
-        for (int i = 0; i < before.length; i++) {
-            due.is(state.getKey() + ": after " + call + ", " + questions.get(i), after[i], before[i]);
-        }
+        Answers.compare(due, state.getKey() + ", after " + call, questions, Answers.after(run, questions), before);
     }
 
     private static boolean isChange(Call call) {
         return List.of("triple", "drop", "forget").contains(call.name());
-    }
-
-    /** The answers to all questions, each few of them put to a new object after the same run. */
-    private static long[] answersAfter(List<Call> run, List<Call> questions) {
-        long[] answers = new long[questions.size()];
-        for (int from = 0; from < questions.size(); from += QUESTIONS_AT_ONCE) {
-            StatRows x = States.rowsAfter(run);
-            int end = Math.min(questions.size(), from + QUESTIONS_AT_ONCE);
-            for (int i = from; i < end; i++) {
-                answers[i] = questions.get(i).on(x);
-            }
-        }
-        return answers;
     }
 
     /** Calls that are refused, or change nothing, in one state or another. */
